@@ -311,7 +311,7 @@ public final class LevelRows {
             return kinds[a] == PARAMETER && firsts[a] == p;
         }
 
-        boolean uses(int a, int p) {
+        boolean usesParameter(int a, int p) {
             return (uses[a] >> p & 1) != 0;
         }
 
@@ -488,7 +488,7 @@ public final class LevelRows {
         }
 
         private int resultAhead(int n, int p, int by) {
-            if (!levels.uses(n, p)) {
+            if (!levels.usesParameter(n, p)) {
                 return n;
             }
             return levels.isParameter(n, p) ? by : NONE;

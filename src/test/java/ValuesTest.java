@@ -195,6 +195,18 @@ final class ValuesTest {
         int other = x.join(x.join(x.parameter(2), x.parameter(3), false), last, true);
         Check.due("levels that differ where parameter 3 is 0 only", x.isSame(five, other), true);
         Check.due("with one more NEXT", x.isSame(five, x.next(other)), false);
+        int any = x.join(p, x.join(q, x.join(x.parameter(2), x.join(x.parameter(3), last, false), false), false), false);
+        Check.due("levels that differ where all are 0 only", x.isSame(any, x.join(one, any, false)), false);
+        Check.due("levels that differ where all are above 0 only", x.isSame(onAll(x, 1), onAll(x, 2)), false);
+    }
+
+    /** A level in which these NEXTs of parameter 0 count only where no parameter is 0. */
+    private static int onAll(LevelRows x, int more) {
+        int last = nexts(x, x.parameter(0), more);
+        for (int p = 0; p < 5; p++) {
+            last = x.join(last, x.parameter(p), true);
+        }
+        return last;
     }
 
     private static void least() {
@@ -230,6 +242,8 @@ final class ValuesTest {
         Check.due("above(q, p)", x.above(q, p), at(0, 1));
         Check.due("above(parameter 4, p)", x.above(last, p), at(0, 0, 0, 0, 1));
         Check.due("above(2 in UNLESS p, p)", x.above(x.join(nexts(x, z, 2), p, true), p), at(1));
+        Check.due("above(3 NEXTs of p in UNLESS p, p)", x.above(x.join(nexts(x, p, 3), p, true), p), at(1));
+        Check.due("above(3 NEXTs of p in UNLESS q, q)", x.above(x.join(nexts(x, p, 3), q, true), q), at(0, 1));
         int both = x.join(p, q, true);
         Check.due("above(UNLESS p q, q)", x.above(both, q), at(2, 1));
         Check.due("above(UNLESS p q, p)", x.above(both, p), at(0, 1));
