@@ -53,7 +53,7 @@ final class LevelsTest {
         Check.due("new: isClash(0)", x.isClash(0), false);
         Check.due("new: undo()", x.undo(), false);
         Check.dueOutOfBounds("new: next(0)", () -> x.next(0));
-        Check.dueOutOfBounds("new: join(0, 0, true)", () -> x.join(0, 0, true) );
+        Check.dueOutOfBounds("new: join(0, 0, true)", () -> x.join(0, 0, true));
         Check.dueOutOfBounds("new: put(0, 0, 0)", () -> x.put(0, 0, 0));
         Check.dueOutOfBounds("new: part(0, 0, 0)", () -> x.part(0, 0, 0));
         Check.dueOutOfBounds("new: isAtMost(0, 0)", () -> x.isAtMost(0, 0) ? 1 : 0);
@@ -263,7 +263,7 @@ final class LevelsTest {
         Check.dueState("put that makes one", () -> y.put(row - 2, 0, last));
     }
 
-    /** 100 joins of a level with itself: without each result kept this would take 2^100 steps. */
+    /** Joins of a level with itself, 59 deep: without each result kept this would take 2^59 steps. */
     private static void putSharedParts() {
         LevelRows x = new LevelRows();
         int p = x.parameter(0);
