@@ -24,23 +24,6 @@ final class LevelsTest {
         Check.end();
     }
 
-    /** Levels made of the level a, each new, till there are so many in all. */
-    private static int fill(LevelRows x, int a, int levels) {
-        int last = a;
-        while (x.about(0) < levels) {
-            last = x.join(last, last, false);
-        }
-        return last;
-    }
-
-    private static int nexts(LevelRows x, int a, int times) {
-        int last = a;
-        for (int i = 0; i < times; i++) {
-            last = x.next(last);
-        }
-        return last;
-    }
-
     private static void newObject() {
         LevelRows x = new LevelRows();
         for (int what = 0; what < 3; what++) {
@@ -103,7 +86,7 @@ final class LevelsTest {
         for (int a : new int[] {-1, 4, 120, Check.LAST_INT, Check.FIRST_INT}) {
             Check.dueOutOfBounds("next(" + a + ")", () -> x.next(a));
         }
-        int deepest = nexts(x, 0, 60);
+        int deepest = Make.nexts(x, 0, 60);
         Check.due("60 NEXTs", deepest, 62);
         Check.dueArgument("61 NEXTs", () -> x.next(deepest));
         Check.due("about(0) after 61 NEXTs", x.about(0), 63);
@@ -116,10 +99,10 @@ final class LevelsTest {
             LevelRows x = new LevelRows();
             int p = x.parameter(0);
             int z = x.zero();
-            int half = nexts(x, p, 31);
+            int half = Make.nexts(x, p, 31);
             boolean unless = way / 2 == 1;
             int joined = way % 2 == 0 ? x.join(half, z, unless) : x.join(z, half, unless);
-            int deepest = nexts(x, joined, 29);
+            int deepest = Make.nexts(x, joined, 29);
             Check.dueArgument("61 NEXTs through a join, way " + way, () -> x.next(deepest));
             int both = x.join(deepest, deepest, unless);
             Check.due("join of 60 NEXTs, way " + way, x.level(both, 1), deepest);
@@ -240,10 +223,10 @@ final class LevelsTest {
     private static void putKeepsWhatWasMade() {
         LevelRows x = new LevelRows();
         int p = x.parameter(0);
-        int deep = nexts(x, p, 40);
+        int deep = Make.nexts(x, p, 40);
         int q = x.parameter(1);
         int top = x.join(x.join(p, q, true), deep, false);
-        int by = nexts(x, q, 21);
+        int by = Make.nexts(x, q, 21);
         int size = x.about(0);
         Check.dueArgument("put of 21 NEXTs under 40", () -> x.put(top, 0, by));
         Check.due("one level for UNLESS, 39 NEXTs stay", x.about(0), size + 40);
@@ -252,9 +235,9 @@ final class LevelsTest {
         Check.due("put of 20 NEXTs under 40: no more new ones", x.put(deep, 0, by - 1), size + 39);
 
         LevelRows y = new LevelRows();
-        int row = nexts(y, y.parameter(0), 10);
+        int row = Make.nexts(y, y.parameter(0), 10);
         int z = y.zero();
-        int last = fill(y, z, 113);
+        int last = Make.fill(y, z, 113);
         Check.due("levels ahead of the put", y.about(0), 113);
         Check.dueState("put of 10 NEXTs where 7 fit", () -> y.put(row, 0, last));
         Check.due("they stay", y.about(0), 120);
@@ -267,7 +250,7 @@ final class LevelsTest {
     private static void putSharedParts() {
         LevelRows x = new LevelRows();
         int p = x.parameter(0);
-        int top = fill(x, p, 60);
+        int top = Make.fill(x, p, 60);
         int z = x.zero();
         Check.due("put under 59 joins", x.put(top, 0, z), 119);
         Check.due("about(0) behind them", x.about(0), 120);
@@ -275,7 +258,7 @@ final class LevelsTest {
         Check.due("value of the old one", x.value(top, 5), 5);
         Check.due("same as ZERO", x.isSame(119, z), true);
         LevelRows y = new LevelRows();
-        int deepest = fill(y, y.parameter(0), 120);
+        int deepest = Make.fill(y, y.parameter(0), 120);
         Check.due("119 joins deep, for itself", y.put(deepest, 0, 0), deepest);
         Check.dueState("119 joins deep, for another", () -> y.put(deepest, 0, 1));
     }
@@ -317,8 +300,8 @@ final class LevelsTest {
     private static void fullObject() {
         LevelRows x = new LevelRows();
         int p = x.parameter(1);
-        int deepest = nexts(x, p, 60);
-        int last = fill(x, p, 119);
+        int deepest = Make.nexts(x, p, 60);
+        int last = Make.fill(x, p, 119);
         Check.due("the 120th level", x.join(p, last, true), 119);
         Check.dueState("full: zero()", x::zero);
         Check.dueState("full: parameter(0)", () -> x.parameter(0));
@@ -336,7 +319,7 @@ final class LevelsTest {
         Check.due("full: about(0)", x.about(0), 120);
         LevelRows y = new LevelRows();
         int z = y.zero();
-        fill(y, z, 120);
+        Make.fill(y, z, 120);
         Check.due("full: zero() that is there", y.zero(), z);
         Check.due("full: level(119, 0)", y.level(119, 0), 3);
         Check.due("full: level(120, 0)", y.level(120, 0), NONE);

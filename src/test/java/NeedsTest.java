@@ -20,14 +20,6 @@ final class NeedsTest {
         Check.end();
     }
 
-    private static LevelRows with(int unknowns) {
-        LevelRows x = new LevelRows();
-        for (int i = 0; i < unknowns; i++) {
-            x.unknown();
-        }
-        return x;
-    }
-
     private static void dueClash(String what, LevelRows x, int... clash) {
         for (int need = -2; need < 34; need++) {
             boolean due = false;
@@ -64,7 +56,7 @@ final class NeedsTest {
     }
 
     private static void needNumbers() {
-        LevelRows x = with(2);
+        LevelRows x = Make.withUnknowns(2);
         Check.due("need(0, 20, 1)", x.need(0, 20, 1), 0);
         Check.due("need(0, -20, 1)", x.need(0, -20, 1), 1);
         Check.due("need(NONE, 0, 1)", x.need(NONE, 0, 1), 2);
@@ -83,7 +75,7 @@ final class NeedsTest {
     }
 
     private static void needWrong() {
-        LevelRows x = with(3);
+        LevelRows x = Make.withUnknowns(3);
         for (int i : new int[] {-2, 3, 9, 10, Check.LAST_INT, Check.FIRST_INT}) {
             Check.dueOutOfBounds("need(" + i + ", 0, 0)", () -> x.need(i, 0, 0));
             Check.dueOutOfBounds("need(0, 0, " + i + ")", () -> x.need(0, 0, i));
@@ -99,7 +91,7 @@ final class NeedsTest {
     }
 
     private static void solved() {
-        LevelRows x = with(4);
+        LevelRows x = Make.withUnknowns(4);
         dueNumbers("no needs", x, 0, 0, 0, 0);
         dueClash("no needs", x);
         x.need(0, 3, 1);
@@ -124,7 +116,7 @@ final class NeedsTest {
     }
 
     private static void unsolvedByCircle() {
-        LevelRows x = with(3);
+        LevelRows x = Make.withUnknowns(3);
         x.need(0, 5, 1);
         x.need(1, -2, 2);
         x.need(2, -3, 0);
@@ -132,14 +124,14 @@ final class NeedsTest {
         x.need(2, -2, 0);
         dueNumbers("a circle of 1", x, NONE, NONE, NONE);
         dueClash("a circle of 1", x, 0, 1, 3);
-        LevelRows y = with(1);
+        LevelRows y = Make.withUnknowns(1);
         y.need(0, 1, 0);
         dueNumbers("more than itself", y, NONE);
         dueClash("more than itself", y, 0);
     }
 
     private static void unsolvedByNought() {
-        LevelRows x = with(2);
+        LevelRows x = Make.withUnknowns(2);
         x.need(0, 20, NONE);
         dueClash("0 + 20 <= nothing", x, 0);
         x.undo();
@@ -158,7 +150,7 @@ final class NeedsTest {
 
     /** The needs stand in the slowest order: each round carries one number on. */
     private static void longRow() {
-        LevelRows x = with(10);
+        LevelRows x = Make.withUnknowns(10);
         for (int i = 8; i >= 0; i--) {
             x.need(i, 20, i + 1);
         }
@@ -175,7 +167,7 @@ final class NeedsTest {
         x.need(9, -20, 8);
         x.need(0, -19, NONE);
         dueClash("and back by one more", x, 9, 21);
-        LevelRows y = with(10);
+        LevelRows y = Make.withUnknowns(10);
         for (int i = 8; i >= 0; i--) {
             y.need(i, -1, i + 1);
         }
@@ -186,12 +178,12 @@ final class NeedsTest {
     }
 
     private static void clashOrder() {
-        LevelRows x = with(1);
+        LevelRows x = Make.withUnknowns(1);
         x.need(0, 2, 0);
         x.need(0, 1, 0);
         x.need(0, 2, 0);
         dueClash("three that clash alone: the first is kept", x, 0);
-        LevelRows y = with(2);
+        LevelRows y = Make.withUnknowns(2);
         y.need(NONE, 3, 0);
         y.need(0, 0, 1);
         y.need(1, -2, NONE);
@@ -201,14 +193,14 @@ final class NeedsTest {
     }
 
     private static void clashOfSeveral() {
-        LevelRows x = with(3);
+        LevelRows x = Make.withUnknowns(3);
         x.need(2, -20, NONE);
         x.need(0, 4, 1);
         x.need(1, 0, 2);
         x.need(2, -3, 0);
         x.need(NONE, 20, 0);
         dueClash("a circle ahead of a row to nothing", x, 1, 2, 3);
-        LevelRows y = with(3);
+        LevelRows y = Make.withUnknowns(3);
         y.need(NONE, 20, 0);
         y.need(0, 4, 1);
         y.need(1, 0, 2);
@@ -218,7 +210,7 @@ final class NeedsTest {
     }
 
     private static void undo() {
-        LevelRows x = with(2);
+        LevelRows x = Make.withUnknowns(2);
         Check.due("undo() of nothing", x.undo(), false);
         x.need(NONE, 5, 0);
         x.need(0, 1, 1);
@@ -239,7 +231,7 @@ final class NeedsTest {
     }
 
     private static void lateUnknown() {
-        LevelRows x = with(1);
+        LevelRows x = Make.withUnknowns(1);
         x.need(NONE, 2, 0);
         dueNumbers("one unknown", x, 2);
         x.unknown();

@@ -21,23 +21,11 @@ final class ValuesTest {
         Check.end();
     }
 
-    private static int nexts(LevelRows x, int a, int times) {
-        int last = a;
-        for (int i = 0; i < times; i++) {
-            last = x.next(last);
-        }
-        return last;
-    }
-
-    private static long at(int... numbers) {
-        return Reference.packed(numbers);
-    }
-
     private static void value() {
         LevelRows x = new LevelRows();
         int z = x.zero();
         Check.due("ZERO's value", x.value(z, -1L), 0);
-        long v = at(1, 22, 333, 4095, 2048);
+        long v = Make.at(1, 22, 333, 4095, 2048);
         int[] numbers = {1, 22, 333, 4095, 2048};
         for (int p = 0; p < 5; p++) {
             int level = x.parameter(p);
@@ -54,13 +42,13 @@ final class ValuesTest {
         int unless = x.join(p0, p1, true);
         int[][] due = {{0, 0, 0, 0}, {5, 0, 5, 0}, {0, 5, 5, 5}, {3, 5, 5, 5}, {5, 3, 5, 5}, {4, 4, 4, 4}};
         for (int[] d : due) {
-            Check.due("GREATER at " + d[0] + ", " + d[1], x.value(greater, at(d[0], d[1])), d[2]);
-            Check.due("UNLESS at " + d[0] + ", " + d[1], x.value(unless, at(d[0], d[1])), d[3]);
+            Check.due("GREATER at " + d[0] + ", " + d[1], x.value(greater, Make.at(d[0], d[1])), d[2]);
+            Check.due("UNLESS at " + d[0] + ", " + d[1], x.value(unless, Make.at(d[0], d[1])), d[3]);
         }
         int within = x.join(x.next(x.next(p0)), x.join(z, p1, true), true);
-        Check.due("UNLESS in UNLESS at 7, 0", x.value(within, at(7, 0)), 0);
-        Check.due("UNLESS in UNLESS at 7, 1", x.value(within, at(7, 1)), 9);
-        Check.due("60 NEXTs of 4095", x.value(nexts(x, p0, 60), at(4095)), 4155);
+        Check.due("UNLESS in UNLESS at 7, 0", x.value(within, Make.at(7, 0)), 0);
+        Check.due("UNLESS in UNLESS at 7, 1", x.value(within, Make.at(7, 1)), 9);
+        Check.due("60 NEXTs of 4095", x.value(Make.nexts(x, p0, 60), Make.at(4095)), 4155);
         Check.due("no such level", x.value(x.about(0), 0), NONE);
         for (int a : WRONG) {
             Check.due("value(" + a + ", 0)", x.value(a, 0), NONE);
@@ -72,7 +60,7 @@ final class ValuesTest {
         int z = x.zero();
         int p4 = x.parameter(4);
         int p0 = x.parameter(0);
-        int u = x.join(nexts(x, p0, 2), p4, true);
+        int u = x.join(Make.nexts(x, p0, 2), p4, true);
         for (int region = 0; region < 32; region++) {
             boolean has0 = (region & 1) != 0;
             boolean has4 = (region & 16) != 0;
@@ -87,7 +75,7 @@ final class ValuesTest {
                 Check.due("parameter " + other + " of UNLESS" + in, x.part(u, region, other), NONE);
             }
         }
-        int deepest = nexts(x, p0, 60);
+        int deepest = Make.nexts(x, p0, 60);
         Check.due("parameter 0 of 60 NEXTs", x.part(deepest, 1, 0), 60);
         Check.due("c of 60 NEXTs", x.part(deepest, 1, NONE), NONE);
         Check.due("c of 60 NEXTs in region 0", x.part(deepest, 0, NONE), 60);
@@ -99,10 +87,10 @@ final class ValuesTest {
         int z = x.zero();
         int p0 = x.parameter(0);
         int p1 = x.parameter(1);
-        int k3 = nexts(x, p0, 3);
-        int k1 = nexts(x, p1, 1);
+        int k3 = Make.nexts(x, p0, 3);
+        int k1 = Make.nexts(x, p1, 1);
         for (int c = 0; c < 8; c++) {
-            int numbers = nexts(x, z, c);
+            int numbers = Make.nexts(x, z, c);
             int g = x.join(numbers, k3, false);
             Check.due("k of 3 beside " + c, x.part(g, 1, 0), 3);
             Check.due("c of " + c + " beside 3", x.part(g, 1, NONE), c > 4 ? c : NONE);
@@ -162,10 +150,10 @@ final class ValuesTest {
                 Check.due("above " + a + ", " + b, x.above(all[a], all[b]) == NONE, due[a][b]);
             }
         }
-        int many = nexts(x, z, 45);
+        int many = Make.nexts(x, z, 45);
         Check.due("a parameter is not at most 45", x.isAtMost(p, many), false);
-        Check.due("45 NEXTs of a parameter are not at most 45", x.isAtMost(nexts(x, p, 45), many), false);
-        Check.due("45 is at most 45 NEXTs of a parameter", x.isAtMost(many, nexts(x, p, 45)), true);
+        Check.due("45 NEXTs of a parameter are not at most 45", x.isAtMost(Make.nexts(x, p, 45), many), false);
+        Check.due("45 is at most 45 NEXTs of a parameter", x.isAtMost(many, Make.nexts(x, p, 45)), true);
         Check.due("1 is at most a parameter in UNLESS", x.isAtMost(x.join(one, p, true), p), true);
         Check.due("2 is not", x.isAtMost(x.join(x.next(one), p, true), p), false);
     }
@@ -202,7 +190,7 @@ final class ValuesTest {
 
     /** A level in which these NEXTs of parameter 0 count only where no parameter is 0. */
     private static int onAll(LevelRows x, int more) {
-        int last = nexts(x, x.parameter(0), more);
+        int last = Make.nexts(x, x.parameter(0), more);
         for (int p = 0; p < 5; p++) {
             last = x.join(last, x.parameter(p), true);
         }
@@ -237,19 +225,19 @@ final class ValuesTest {
         Check.due("above(p, p)", x.above(p, p), NONE);
         Check.due("above(0, p)", x.above(z, p), NONE);
         Check.due("above(1, p)", x.above(x.next(z), p), 0);
-        Check.due("above(p, 0)", x.above(p, z), at(1));
-        Check.due("above(p, q)", x.above(p, q), at(1));
-        Check.due("above(q, p)", x.above(q, p), at(0, 1));
-        Check.due("above(parameter 4, p)", x.above(last, p), at(0, 0, 0, 0, 1));
-        Check.due("above(2 in UNLESS p, p)", x.above(x.join(nexts(x, z, 2), p, true), p), at(1));
-        Check.due("above(3 NEXTs of p in UNLESS p, p)", x.above(x.join(nexts(x, p, 3), p, true), p), at(1));
-        Check.due("above(3 NEXTs of p in UNLESS q, q)", x.above(x.join(nexts(x, p, 3), q, true), q), at(0, 1));
+        Check.due("above(p, 0)", x.above(p, z), Make.at(1));
+        Check.due("above(p, q)", x.above(p, q), Make.at(1));
+        Check.due("above(q, p)", x.above(q, p), Make.at(0, 1));
+        Check.due("above(parameter 4, p)", x.above(last, p), Make.at(0, 0, 0, 0, 1));
+        Check.due("above(2 in UNLESS p, p)", x.above(x.join(Make.nexts(x, z, 2), p, true), p), Make.at(1));
+        Check.due("above(3 NEXTs of p in UNLESS p, p)", x.above(x.join(Make.nexts(x, p, 3), p, true), p), Make.at(1));
+        Check.due("above(3 NEXTs of p in UNLESS q, q)", x.above(x.join(Make.nexts(x, p, 3), q, true), q), Make.at(0, 1));
         int both = x.join(p, q, true);
-        Check.due("above(UNLESS p q, q)", x.above(both, q), at(2, 1));
-        Check.due("above(UNLESS p q, p)", x.above(both, p), at(0, 1));
-        Check.due("above(GREATER p q, UNLESS p q)", x.above(x.join(p, q, false), both), at(1));
+        Check.due("above(UNLESS p q, q)", x.above(both, q), Make.at(2, 1));
+        Check.due("above(UNLESS p q, p)", x.above(both, p), Make.at(0, 1));
+        Check.due("above(GREATER p q, UNLESS p q)", x.above(x.join(p, q, false), both), Make.at(1));
         int all = x.join(x.next(p), x.join(q, last, true), true);
-        Check.due("above in region 17", x.above(all, x.join(q, last, true)), at(1, 0, 0, 0, 1));
+        Check.due("above in region 17", x.above(all, x.join(q, last, true)), Make.at(1, 0, 0, 0, 1));
     }
 
     private static void aboveFar() {
@@ -257,16 +245,16 @@ final class ValuesTest {
         int z = x.zero();
         int p = x.parameter(0);
         int q = x.parameter(1);
-        Check.due("above(p, 60)", x.above(p, nexts(x, z, 60)), at(61));
-        Check.due("above(3 NEXTs of p, 60)", x.above(nexts(x, p, 3), nexts(x, z, 60)), at(58));
-        int far = nexts(x, q, 40);
-        Check.due("above(p, 40 NEXTs of q)", x.above(p, far), at(41));
-        Check.due("above(UNLESS p q, 40 NEXTs of q)", x.above(x.join(p, q, true), far), at(42, 1));
+        Check.due("above(p, 60)", x.above(p, Make.nexts(x, z, 60)), Make.at(61));
+        Check.due("above(3 NEXTs of p, 60)", x.above(Make.nexts(x, p, 3), Make.nexts(x, z, 60)), Make.at(58));
+        int far = Make.nexts(x, q, 40);
+        Check.due("above(p, 40 NEXTs of q)", x.above(p, far), Make.at(41));
+        Check.due("above(UNLESS p q, 40 NEXTs of q)", x.above(x.join(p, q, true), far), Make.at(42, 1));
         LevelRows y = new LevelRows();
         int yp = y.parameter(3);
         int yq = y.parameter(4);
-        int farthest = nexts(y, yq, 60);
-        Check.due("above: the farthest number", y.above(y.join(yp, yq, true), farthest), at(0, 0, 0, 62, 1));
+        int farthest = Make.nexts(y, yq, 60);
+        Check.due("above: the farthest number", y.above(y.join(yp, yq, true), farthest), Make.at(0, 0, 0, 62, 1));
     }
 
     /** Parameters 0 and 1 could both come above: 0 stays least, and 1 goes on from there. */
@@ -276,25 +264,25 @@ final class ValuesTest {
         int q = x.parameter(1);
         int r = x.parameter(2);
         int a = x.join(x.join(p, q, false), r, true);
-        int b = nexts(x, r, 5);
-        Check.due("above in region 5", x.above(a, b), at(7, 0, 1));
+        int b = Make.nexts(x, r, 5);
+        Check.due("above in region 5", x.above(a, b), Make.at(7, 0, 1));
         int only = x.join(p, x.join(q, r, true), true);
         int both = x.join(x.join(x.next(q), p, true), x.join(p, x.join(q, r, true), true), true);
-        Check.due("above, UNLESS p UNLESS q r", x.above(only, b), at(7, 0, 1));
-        Check.due("above, more of these", x.above(both, b), at(7, 0, 1));
+        Check.due("above, UNLESS p UNLESS q r", x.above(only, b), Make.at(7, 0, 1));
+        Check.due("above, more of these", x.above(both, b), Make.at(7, 0, 1));
         int inner = x.join(x.join(p, q, true), x.join(q, p, true), false);
-        int bound = x.join(p, nexts(x, r, 5), false);
-        Check.due("above, but for p", x.above(x.join(inner, r, true), bound), at(0, 7, 1));
+        int bound = x.join(p, Make.nexts(x, r, 5), false);
+        Check.due("above, but for p", x.above(x.join(inner, r, true), bound), Make.at(0, 7, 1));
         int near = x.join(x.join(p, b, false), x.join(q, b, false), false);
         Check.due("above with all parameters", x.above(x.next(near), near), 0);
         LevelRows y = new LevelRows();
         int s = y.parameter(0);
         int t = y.parameter(1);
-        int three = nexts(y, y.zero(), 3);
+        int three = Make.nexts(y, y.zero(), 3);
         int pair = y.join(y.join(s, t, true), y.join(t, s, true), true);
-        Check.due("both, against 3", y.above(pair, three), at(4));
+        Check.due("both, against 3", y.above(pair, three), Make.at(4));
         int apart = y.join(y.join(s, t, false), y.join(three, s, true), true);
-        Check.due("both, against 3 where s is", y.above(apart, y.join(s, three, false)), at(1, 4));
+        Check.due("both, against 3 where s is", y.above(apart, y.join(s, three, false)), Make.at(1, 4));
     }
 
     private static void wrongLevels() {
