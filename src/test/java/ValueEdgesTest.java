@@ -10,7 +10,7 @@ final class ValueEdgesTest {
         valueOfNoLevel();
         valueHas12BitsForEach();
         valueOfUnlessAt0And1();
-        valueIsGreatestAt60Nexts();
+        valueLeastAndGreatest();
         partOfNoLevel();
         partInRegions0To31();
         partOfParameters0To4();
@@ -32,6 +32,7 @@ final class ValueEdgesTest {
         aboveInTheFirstRegion();
         aboveInEachRegionAlone();
         aboveAtTheLeastNumbers();
+        aboveAtOnce();
         aboveParameter0First();
         aboveAtTheFarthest();
         Check.end();
@@ -86,8 +87,12 @@ final class ValueEdgesTest {
         Check.due("8: GREATER of one that vanishes", x.value(g, Make.at(9, 0)), 9);
     }
 
-    private static void valueIsGreatestAt60Nexts() {
+    /** Terms: "0", "a's and 1": the least values there are, and the greatest. */
+    private static void valueLeastAndGreatest() {
         LevelRows x = new LevelRows();
+        int z = x.zero();
+        Check.due("8: ZERO", x.value(z, -1L), 0);
+        Check.due("8: NEXT ZERO", x.value(x.next(z), -1L), 1);
         int deepest = Make.nexts(x, x.parameter(4), 60);
         Check.due("8: 60 NEXTs of 4095", x.value(deepest, -1L), 4155);
         Check.due("8: 60 NEXTs of 0", x.value(deepest, 0L), 60);
@@ -429,6 +434,18 @@ final class ValueEdgesTest {
                 Check.due(call + " + 1, " + c, x.above(x.next(grows), number), c == 0 ? 0 : (long) c << 12 * p);
                 Check.due(call + " + 2, " + c, x.above(x.next(x.next(grows)), number),
                         c < 2 ? 0 : (c - 1L) << 12 * p);
+            }
+        }
+    }
+
+    /** 13: where a is above b at once the numbers stay at 1, though a parameter grows more in a. */
+    private static void aboveAtOnce() {
+        for (int p = 0; p < 5; p++) {
+            for (int more = 1; more <= 3; more++) {
+                LevelRows x = new LevelRows();
+                int grows = x.parameter(p);
+                int vanishes = x.join(Make.nexts(x, grows, more), grows, true);
+                Check.due("13: parameter " + p + " + " + more + " where it is", x.above(vanishes, grows), 1L << 12 * p);
             }
         }
     }
